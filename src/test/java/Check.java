@@ -4,15 +4,26 @@ import java.util.Objects;
 final class Check {
     private static int wrong = 0;
     private static int asked = 0;
+    private static String sentence = "";
 
     private Check() {
+    }
+
+    /** Where the document says what the checks behind this call are about, and its words: printed with what is wrong. */
+    static void says(String place, String words) {
+        sentence = place + ": \"" + words + "\" ";
+    }
+
+    /** The numbers next to a range, on both sides, and those that are farthest from it. */
+    static int[] outside(int least, int most) {
+        return new int[] {least - 1, most + 1, Integer.MIN_VALUE, Integer.MAX_VALUE};
     }
 
     static void same(String call, Object got, Object due) {
         asked++;
         if (!Objects.equals(got, due)) {
             wrong++;
-            System.out.println(call + " answered " + got + ", due is " + due);
+            System.out.println(sentence + call + " answered " + got + ", due is " + due);
         }
     }
 

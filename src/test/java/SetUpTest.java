@@ -5,21 +5,13 @@ import java.lang.reflect.Modifier;
 import java.util.Set;
 import java.util.TreeSet;
 
-/** The public face, and promises 1 to 5: a new object, dimmer, lamp, star, cue. */
+/** The public face, and promises 2 to 5: dimmer, lamp, star, cue. */
 public final class SetUpTest {
     public static void main(String[] args) {
         face();
-        newObject();
-        dimmerRefuses();
         dimmerNumbers();
-        dimmerEdges();
-        lampRefuses();
         lampChanges();
-        starRefuses();
         starNumbers();
-        cueRefusesOfEveryKind();
-        cueRefusesByKind();
-        cueTakesEdges();
         cueNumbers();
         Check.end();
     }
@@ -53,41 +45,6 @@ public final class SetUpTest {
         Check.same("parameters of the constructor", made[0].getParameterCount(), 0);
     }
 
-    static void newObject() {
-        StarConsole x = new StarConsole();
-        for (int what = 0; what <= 12; what++) {
-            Check.same("new: count(" + what + ")", x.count(what), what == 9 ? -1 : 0);
-        }
-        for (int part = 0; part < 12; part++) {
-            Check.same("new: glare(" + part + ")", x.glare(part), 0);
-        }
-        Check.same("new: next()", x.next(), -1);
-        Check.same("new: darkest()", x.darkest(), 0);
-        Check.same("new: mean()", x.mean(), 0.0);
-        Check.absent(x, "new: told(0, 0)", () -> x.told(0, 0));
-        Check.absent(x, "new: about(0, 0)", () -> x.about(0, 0));
-        Check.absent(x, "new: comet(0, 0)", () -> x.comet(0, 0));
-        Check.absent(x, "new: when(0)", () -> x.when(0));
-        Check.absent(x, "new: lasts(0)", () -> x.lasts(0));
-    }
-
-    static void dimmerRefuses() {
-        StarConsole x = new StarConsole();
-        int[] parts = {-1, 12, Integer.MIN_VALUE, Integer.MAX_VALUE};
-        int[] paces = {0, 51, -1, Integer.MIN_VALUE, Integer.MAX_VALUE};
-        int[] lives = {-1, 10000, Integer.MIN_VALUE, Integer.MAX_VALUE};
-        for (int part : parts) {
-            Check.invalid(x, "dimmer of part " + part, () -> x.dimmer(part, 1, 1));
-        }
-        for (int pace : paces) {
-            Check.invalid(x, "dimmer of pace " + pace, () -> x.dimmer(0, pace, 1));
-        }
-        for (int life : lives) {
-            Check.invalid(x, "dimmer of life " + life, () -> x.dimmer(0, 1, life));
-        }
-        Check.same("dimmers after refusals", x.count(3), 0);
-    }
-
     static void dimmerNumbers() {
         StarConsole x = new StarConsole();
         for (int i = 0; i < 8; i++) {
@@ -103,30 +60,6 @@ public final class SetUpTest {
             for (int what = 0; what < 5; what++) {
                 Check.same("told(" + i + ", " + what + ")", x.told(i, what), due[what]);
             }
-        }
-    }
-
-    static void dimmerEdges() {
-        StarConsole x = new StarConsole();
-        Check.same("dimmer(0, 1, 0)", x.dimmer(0, 1, 0), 0);
-        Check.same("dimmer(11, 50, 9999)", x.dimmer(11, 50, 9999), 1);
-        Check.same("told(0, 4)", x.told(0, 4), 0);
-        Check.same("told(1, 0)", x.told(1, 0), 11);
-        Check.same("told(1, 3)", x.told(1, 3), 50);
-        Check.same("told(1, 4)", x.told(1, 4), 9999);
-    }
-
-    static void lampRefuses() {
-        StarConsole x = new StarConsole();
-        x.dimmer(0, 1, 77);
-        int[] lives = {-1, 10000, Integer.MIN_VALUE, Integer.MAX_VALUE};
-        for (int life : lives) {
-            Check.invalid(x, "lamp of life " + life, () -> x.lamp(0, life));
-        }
-        int[] dimmers = {-1, 1, 8, Integer.MIN_VALUE, Integer.MAX_VALUE};
-        for (int dimmer : dimmers) {
-            Check.absent(x, "lamp of " + dimmer, () -> x.lamp(dimmer, 1));
-            Check.absent(x, "lamp of " + dimmer + ", a wrong life too", () -> x.lamp(dimmer, -1));
         }
     }
 
@@ -152,19 +85,6 @@ public final class SetUpTest {
         Check.same("the other lamp", x.told(1, 4), 500);
     }
 
-    static void starRefuses() {
-        StarConsole x = new StarConsole();
-        int[] degrees = {-1, 360, Integer.MIN_VALUE, Integer.MAX_VALUE};
-        int[] lights = {0, 10, -1, Integer.MIN_VALUE, Integer.MAX_VALUE};
-        for (int degree : degrees) {
-            Check.invalid(x, "star at " + degree, () -> x.star(degree, 1));
-        }
-        for (int light : lights) {
-            Check.invalid(x, "star of light " + light, () -> x.star(0, light));
-        }
-        Check.same("stars after refusals", x.count(4), 0);
-    }
-
     static void starNumbers() {
         StarConsole x = new StarConsole();
         for (int i = 0; i < 20; i++) {
@@ -177,58 +97,6 @@ public final class SetUpTest {
         Check.same("degree of star 19", x.about(19, 0), 359);
         Check.same("degree of star 7", x.about(7, 0), 126);
         Check.same("light of star 8", x.about(8, 1), 9);
-    }
-
-    static void cueRefusesOfEveryKind() {
-        StarConsole x = new StarConsole();
-        x.dimmer(0, 1, 1);
-        int[] times = {-1, 1000, Integer.MIN_VALUE, Integer.MAX_VALUE};
-        int[] bs = {0, 0, 0, 1, 0};
-        for (int time : times) {
-            for (int kind = 0; kind < 5; kind++) {
-                int k = kind;
-                Check.invalid(x, "cue at " + time + " of kind " + k, () -> x.cue(time, k, 0, bs[k]));
-            }
-        }
-        int[] kinds = {-1, 5, Integer.MIN_VALUE, Integer.MAX_VALUE};
-        for (int kind : kinds) {
-            Check.invalid(x, "cue of kind " + kind, () -> x.cue(0, kind, 0, 0));
-        }
-        Check.same("cues after refusals", x.count(6), 0);
-    }
-
-    static void cueRefusesByKind() {
-        StarConsole x = new StarConsole();
-        Check.invalid(x, "fade of no dimmer", () -> x.cue(0, 0, 0, 50));
-        x.dimmer(0, 1, 1);
-        x.dimmer(0, 1, 1);
-        int min = Integer.MIN_VALUE;
-        int max = Integer.MAX_VALUE;
-        int[][] wrong = {
-            {0, -1, 0}, {0, 2, 0}, {0, min, 0}, {0, max, 0}, {0, 0, -1}, {0, 0, 101}, {0, 0, min}, {0, 0, max},
-            {1, 1, 0}, {1, -1, 0}, {1, 0, -31}, {1, 0, 31}, {1, 0, min}, {1, 0, max},
-            {2, -1, 0}, {2, 360, 0}, {2, 0, -21}, {2, 0, 21}, {2, min, 0}, {2, max, 0}, {2, 0, min}, {2, 0, max},
-            {3, -1, 1}, {3, 100, 1}, {3, 0, 0}, {3, 0, 61}, {3, 0, -1}, {3, min, 1}, {3, max, 1}, {3, 0, max},
-            {4, 1, 0}, {4, -1, 0}, {4, 0, 1}, {4, 0, -1}, {4, min, 0}, {4, 0, max},
-        };
-        for (int[] w : wrong) {
-            Check.invalid(x, "cue(0, " + w[0] + ", " + w[1] + ", " + w[2] + ")", () -> x.cue(0, w[0], w[1], w[2]));
-        }
-        Check.same("cues after refusals", x.count(6), 0);
-    }
-
-    static void cueTakesEdges() {
-        StarConsole x = new StarConsole();
-        x.dimmer(0, 1, 1);
-        x.dimmer(0, 1, 1);
-        int[][] right = {
-            {0, 0, 0, 0}, {999, 0, 1, 100}, {0, 1, 0, -30}, {0, 1, 0, 30}, {0, 2, 0, -20}, {0, 2, 359, 20},
-            {0, 3, 0, 1}, {0, 3, 99, 60}, {999, 4, 0, 0},
-        };
-        for (int i = 0; i < right.length; i++) {
-            int[] r = right[i];
-            Check.same("cue at an edge", x.cue(r[0], r[1], r[2], r[3]), i);
-        }
     }
 
     static void cueNumbers() {

@@ -4,7 +4,6 @@ public final class ShowTest {
         runTurnsTheClock();
         jumpSets();
         fadeByHand();
-        passRefuses();
         passOfAHeldClock();
         cuesOfOneTimeRunByNumbers();
         holdLetsTheOthersOfItsTimeRun();
@@ -70,18 +69,6 @@ public final class ShowTest {
         for (int aim : new int[] {-1, 101, Integer.MIN_VALUE, Integer.MAX_VALUE}) {
             Check.invalid(x, "fade(0, " + aim + ")", () -> x.fade(0, aim));
         }
-    }
-
-    static void passRefuses() {
-        StarConsole x = new StarConsole();
-        x.run();
-        for (int ticks : new int[] {0, 501, -1, Integer.MIN_VALUE, Integer.MAX_VALUE}) {
-            Check.invalid(x, "pass(" + ticks + ")", () -> x.pass(ticks));
-        }
-        Check.same("pass(1)", x.pass(1), 0);
-        Check.same("pass(500)", x.pass(500), 0);
-        Check.same("the tick", x.count(0), 501);
-        Check.same("the clock", x.count(1), 501);
     }
 
     static void passOfAHeldClock() {

