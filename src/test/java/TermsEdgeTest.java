@@ -357,6 +357,20 @@ public final class TermsEdgeTest {
         Check.same("the last of them", x.count(12), 23);
     }
 
+    /** A cue of this kind does what its sentence says, and nothing else. */
+    private static void doesNoMore(int kind, int a, int b, int aim, int speed, int comets, int line, int runs) {
+        StarConsole x = new StarConsole();
+        x.dimmer(0, 50, 9999);
+        x.cue(0, kind, a, b);
+        x.run();
+        x.pass(1);
+        Check.same("the aim then", x.told(0, 2), aim);
+        Check.same("the speed of the ball then", x.count(12), speed);
+        Check.same("comets in all then", x.count(5), comets);
+        Check.same("the line then", x.count(9), line);
+        Check.same("whether the clock runs then", x.count(2), runs);
+    }
+
     static void kindFade() {
         Check.says("Terms", "0: the dimmer a has the aim b (0 to 100).");
         StarConsole x = new StarConsole();
@@ -377,6 +391,7 @@ public final class TermsEdgeTest {
         x.pass(1);
         Check.same("the aim of 1 then", x.told(1, 2), 0);
         Check.same("the level of 1 then", x.told(1, 1), 0);
+        doesNoMore(0, 0, 7, 7, 0, 0, -1, 1);
     }
 
     static void kindTurn() {
@@ -397,6 +412,7 @@ public final class TermsEdgeTest {
             Check.same("the speed", x.count(12), speeds[i]);
             Check.same("the angle in the same tick", x.count(11), angles[i]);
         }
+        doesNoMore(1, 0, 7, 0, 7, 0, -1, 1);
     }
 
     static void kindComet() {
@@ -428,6 +444,7 @@ public final class TermsEdgeTest {
         Check.same("the angle of the twelfth", x.comet(11, 0), 112);
         Check.same("the speed of the twelfth", x.comet(11, 1), 1);
         Check.absent(x, "the thirteenth", () -> x.comet(12, 0));
+        doesNoMore(2, 9, 7, 0, 0, 1, -1, 1);
     }
 
     static void kindSpeak() {
@@ -471,6 +488,7 @@ public final class TermsEdgeTest {
         Check.same("its ticks", y.count(10), 1);
         y.pass(1);
         Check.same("the longer one does not come back", y.count(9), -1);
+        doesNoMore(3, 9, 7, 0, 0, 0, 9, 1);
     }
 
     static void kindHold() {
@@ -486,6 +504,7 @@ public final class TermsEdgeTest {
         Check.same("both are run", x.pass(5), 2);
         Check.same("the clock is held, not turned twice", x.count(2), 0);
         Check.same("the clock", x.count(1), 1);
+        doesNoMore(4, 0, 0, 0, 0, 0, -1, 0);
     }
 
     static void tickRunsCues() {

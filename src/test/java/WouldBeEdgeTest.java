@@ -9,6 +9,7 @@ public final class WouldBeEdgeTest {
         foreseeTicks();
         foreseeWhat();
         foreseeReturns();
+        foreseeFromTheMidst();
         foreseeInvalid();
         foreseeAbsent();
         darkestReturns();
@@ -70,6 +71,14 @@ public final class WouldBeEdgeTest {
         whens(x, "held by a cue", -1, -1, -1, -1, -1, -1);
         x.run();
         whens(x, "running again", -1, -1, -1, -1, 1, 499);
+
+        StarConsole held = new StarConsole();
+        held.cue(3, 4, 0, 0);
+        held.cue(4, 1, 0, 0);
+        held.cue(3, 1, 0, 0);
+        held.cue(2, 1, 0, 0);
+        held.run();
+        whens(held, "before the first cue holds it", 4, -1, 4, 3);
 
         StarConsole y = new StarConsole();
         y.cue(999, 1, 0, 1);
@@ -137,6 +146,15 @@ public final class WouldBeEdgeTest {
         Check.same("of one that a cue dims", x.lasts(4), -1);
         x.lamp(4, 0);
         Check.same("of one whose lamp is without life", x.lasts(4), 0);
+
+        StarConsole bright = new StarConsole();
+        bright.dimmer(0, 1, 9999);
+        bright.fade(0, 100);
+        bright.pass(100);
+        bright.lamp(0, 100);
+        Check.same("of one that shines already", bright.lasts(0), 10);
+        bright.lamp(0, 101);
+        Check.same("of one that shines already, for a little longer", bright.lasts(0), 11);
     }
 
     static void lastsAbsent() {
@@ -221,6 +239,27 @@ public final class WouldBeEdgeTest {
         Check.same("7, stars that are seen", x.foresee(1, 7), 3);
         Check.same("8, comets that are seen", x.foresee(1, 8), 2);
         Check.same("11, the angle of the ball", x.foresee(1, 11), 189);
+    }
+
+    static void foreseeFromTheMidst() {
+        Check.says("foresee", "Returns this, behind so many ticks, if nothing is done (nothing is changed).");
+        StarConsole x = new StarConsole();
+        x.dimmer(3, 10, 9999);
+        x.star(95, 6);
+        x.cue(0, 2, 200, 0);
+        x.cue(0, 2, 70, 10);
+        x.fade(0, 70);
+        x.pass(7);
+        x.run();
+        x.pass(1);
+        int[] ticks = {1, 3, 4, 18, 19};
+        int[] seen = {1, 1, 2, 2, 0};
+        for (int i = 0; i < ticks.length; i++) {
+            Check.same("of comets on their way, foresee(" + ticks[i] + ", 8)", x.foresee(ticks[i], 8), seen[i]);
+        }
+        x.fade(0, 40);
+        Check.same("of a star in a part that is yet too bright", x.foresee(1, 7), 0);
+        Check.same("of a star in a part that is dark enough", x.foresee(2, 7), 1);
     }
 
     static void foreseeInvalid() {
