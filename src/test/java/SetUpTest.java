@@ -2,11 +2,39 @@ import java.lang.reflect.Constructor;
 import java.lang.reflect.Field;
 import java.lang.reflect.Method;
 import java.lang.reflect.Modifier;
+import java.util.List;
 import java.util.Set;
 import java.util.TreeSet;
 
 /** The public face, and promises 2 to 5: dimmer, lamp, star, cue. */
 public final class SetUpTest {
+    private static final String INVALID = "java.lang.IllegalArgumentException";
+    private static final String FULL = "java.lang.IllegalStateException";
+    private static final String ABSENT = "java.lang.IndexOutOfBoundsException";
+
+    /** "The public face", with the exceptions that each method names, in their order. */
+    private static final Set<String> FACE = new TreeSet<>(List.of(
+            method("int", "dimmer(int,int,int)", INVALID, FULL),
+            method("int", "lamp(int,int)", ABSENT, INVALID),
+            method("int", "star(int,int)", INVALID, FULL),
+            method("int", "cue(int,int,int,int)", INVALID, FULL),
+            method("boolean", "run()"),
+            method("int", "jump(int)", INVALID),
+            method("int", "fade(int,int)", ABSENT, INVALID),
+            method("int", "pass(int)", INVALID),
+            method("int", "told(int,int)", ABSENT),
+            method("int", "glare(int)", ABSENT),
+            method("int", "about(int,int)", ABSENT),
+            method("int", "comet(int,int)", ABSENT),
+            method("int", "count(int)", ABSENT),
+            method("int", "next()"),
+            method("int", "when(int)", ABSENT),
+            method("int", "lasts(int)", ABSENT),
+            method("int", "foresee(int,int)", INVALID, ABSENT),
+            method("int", "darkest()"),
+            method("double", "mean()"),
+            method("long", "digest()")));
+
     public static void main(String[] args) {
         face();
         dimmerNumbers();
@@ -16,33 +44,33 @@ public final class SetUpTest {
         Check.end();
     }
 
+    private static String method(String type, String sign, String... thrown) {
+        String head = "public " + type + " StarConsole." + sign;
+        return thrown.length == 0 ? head : head + " throws " + String.join(",", thrown);
+    }
+
     static void face() {
-        Set<String> due = new TreeSet<>(Set.of(
-                "int dimmer 3", "int lamp 2", "int star 2", "int cue 4", "boolean run 0", "int jump 1",
-                "int fade 2", "int pass 1"));
-        due.addAll(Set.of("int told 2", "int glare 1", "int about 2", "int comet 2", "int count 1"));
-        due.addAll(Set.of("int next 0", "int when 1", "int lasts 1", "int foresee 2", "int darkest 0",
-                "double mean 0", "long digest 0"));
         Set<String> names = new TreeSet<>();
-        for (String sign : due) {
-            names.add(sign.split(" ")[1]);
-        }
         Set<String> got = new TreeSet<>();
         for (Method m : StarConsole.class.getDeclaredMethods()) {
             if (!Modifier.isPrivate(m.getModifiers())) {
-                got.add(m.getReturnType() + " " + m.getName() + " " + m.getParameterCount());
-            } else {
+                got.add(m.toGenericString());
+                names.add(m.getName());
+            }
+        }
+        Check.same("methods of the face", got, FACE);
+        for (Method m : StarConsole.class.getDeclaredMethods()) {
+            if (Modifier.isPrivate(m.getModifiers())) {
                 Check.same("a private method is named " + m.getName(), names.contains(m.getName()), false);
             }
         }
-        Check.same("methods of the face", got, due);
         Check.same("modifiers of the class", StarConsole.class.getModifiers(), Modifier.PUBLIC | Modifier.FINAL);
         for (Field f : StarConsole.class.getDeclaredFields()) {
             Check.same("field " + f.getName() + " is private", Modifier.isPrivate(f.getModifiers()), true);
         }
         Constructor<?>[] made = StarConsole.class.getDeclaredConstructors();
         Check.same("constructors", made.length, 1);
-        Check.same("parameters of the constructor", made[0].getParameterCount(), 0);
+        Check.same("the constructor", made[0].toGenericString(), "public StarConsole()");
     }
 
     static void dimmerNumbers() {
